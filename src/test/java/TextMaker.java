@@ -1,3 +1,4 @@
+import java.util.Arrays;
 import java.util.Random;
 
 /** Makes setup texts: right ones, ones at the limits, and ones with errors. */
@@ -11,6 +12,10 @@ final class TextMaker {
     };
 
     private final Random random;
+    /** Whether the text may have errors in what its numbers mean. */
+    private boolean careless = false;
+    /** For each wire the set of the wires on which it depends. */
+    private final int[] below = new int[32];
 
     TextMaker(Random random) {
         this.random = random;
@@ -32,12 +37,15 @@ final class TextMaker {
         return random.nextInt(15) == 0 ? " ".repeat(random.nextInt(3)) + " " : " ";
     }
 
-    String good() {
+    private String good() {
+        careless = random.nextInt(4) == 0;
         int inputs = random.nextInt(4) == 0 ? 1 + random.nextInt(8) : 1 + random.nextInt(4);
         int wires = inputs;
+        int allTests = 0;
+        Arrays.fill(below, 0);
         StringBuilder text = new StringBuilder("circuit" + space() + number(inputs) + ";");
         int gates = random.nextInt(4) == 0 ? 16 : random.nextInt(8);
-        if (random.nextInt(25) == 0) {
+        if (careless && random.nextInt(6) == 0) {
             gates = 17;
         }
         for (int g = 0; g < gates; g++) {
@@ -46,22 +54,24 @@ final class TextMaker {
             text.append("gate").append(space()).append(KINDS[kind]);
             for (int k = 0; k < operands; k++) {
                 int from = random.nextInt(3) == 0 ? Math.max(0, wires - 1 - random.nextInt(3)) : random.nextInt(wires);
+                below[wires] |= below[from] | 1 << from;
                 text.append(k == 0 && random.nextBoolean() ? "" : space()).append(number(from));
             }
             text.append(";");
             wires++;
             if (random.nextInt(10) == 0) {
+                allTests++;
                 text.append(test(inputs));
             }
         }
         text.append(outputs(wires));
-        int bridges = random.nextInt(3) == 0 ? random.nextInt(10) : random.nextInt(3);
+        int bridges = random.nextInt(3) == 0 ? random.nextInt(careless ? 10 : 9) : random.nextInt(3);
         for (int b = 0; b < bridges; b++) {
-            text.append("bridge ").append(random.nextBoolean() ? "and" : "or").append(space());
-            text.append(number(random.nextInt(wires))).append(" ").append(number(random.nextInt(wires))).append(";");
+            text.append(bridge(wires));
         }
         int tests = random.nextInt(5) == 0 ? random.nextInt(18) : random.nextInt(6);
-        for (int t = 0; t < tests; t++) {
+        for (int t = 0; t < tests && (careless || allTests < 16); t++) {
+            allTests++;
             text.append(test(inputs));
         }
         return text.toString();
@@ -69,20 +79,40 @@ final class TextMaker {
 
     private String outputs(int wires) {
         StringBuilder text = new StringBuilder();
-        int count = random.nextInt(8);
+        int count = random.nextInt(careless ? 8 : 7);
         boolean open = false;
+        int told = 0;
         for (int o = 0; o < count; o++) {
-            if (!open) {
-                text.append("output");
+            int wire = random.nextInt(3) == 0 ? random.nextInt(wires) : Math.max(0, wires - 1 - o);
+            if (careless && random.nextInt(30) == 0) {
+                wire = wires;
             }
-            int wire = random.nextInt(30) == 0 ? wires : random.nextInt(3) == 0 ? random.nextInt(wires) : wires - 1 - o;
-            text.append(" ").append(number(Math.max(0, wire)));
+            if (!careless && (told >> wire & 1) != 0) {
+                continue;
+            }
+            told |= 1 << wire;
+            text.append(open ? " " : "output ").append(number(wire));
             open = random.nextInt(3) != 0;
             if (!open) {
                 text.append(";");
             }
         }
         return text.append(open ? ";" : "").toString();
+    }
+
+    private String bridge(int wires) {
+        int first = 0;
+        int second = 0;
+        for (int tries = 0; tries < 20; tries++) {
+            first = random.nextInt(wires);
+            second = random.nextInt(wires);
+            boolean loop = first == second || (below[first] >> second & 1) != 0 || (below[second] >> first & 1) != 0;
+            if (careless || !loop) {
+                String kind = random.nextBoolean() ? "and" : "or";
+                return "bridge " + kind + space() + number(first) + " " + number(second) + ";";
+            }
+        }
+        return "";
     }
 
     private String test(int inputs) {

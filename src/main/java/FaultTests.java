@@ -51,14 +51,9 @@ public final class FaultTests {
     /** One part for each way in which all outputs can be 0, 1 or unknown. */
     private static final int MAX_PARTS = 729;
 
-    private final int[] buffer = new int[MAX_BYTES];
-    private int bufferLength = 0;
-    private int errorAt = -1;
-
+    private final SetupReader reader = new SetupReader();
     private final Setup now = new Setup();
-    private final Setup draft = new Setup();
     private final History history = new History();
-    private final SetupReader reader = new SetupReader(buffer, draft);
 
     private final Rows fullRows = new Rows(MAX_WORDS);
     private final Rows testRows = new Rows(1);
@@ -75,36 +70,33 @@ public final class FaultTests {
     }
 
     public int append(int w0, int w1, int w2, int w3, int w4) {
-        if (bufferLength + BYTES_A_CALL > MAX_BYTES) {
+        if (reader.textLength + BYTES_A_CALL > MAX_BYTES) {
             return -1;
         }
-        appendBytes(w0);
-        appendBytes(w1);
-        appendBytes(w2);
-        appendBytes(w3);
-        appendBytes(w4);
-        return bufferLength;
+        reader.putBytes(w0);
+        reader.putBytes(w1);
+        reader.putBytes(w2);
+        reader.putBytes(w3);
+        reader.putBytes(w4);
+        return reader.textLength;
     }
 
     public int load(int length) throws IllegalArgumentException {
-        if (length < 0 || length > bufferLength) {
+        if (length < 0 || length > reader.textLength) {
             throw new IllegalArgumentException("length");
         }
-        bufferLength = 0;
         int error = reader.read(length);
         if (error != 0) {
-            errorAt = reader.errorAt;
             return error;
         }
-        errorAt = -1;
         history.push(now);
-        now.copyFrom(draft);
+        now.copyFrom(reader.setup);
         forgetRows();
         return now.circuit.wires;
     }
 
     public int errorOffset() {
-        return errorAt;
+        return reader.errorAt;
     }
 
     public int state(int what) throws IllegalArgumentException {
@@ -416,13 +408,6 @@ public final class FaultTests {
             sum = 31 * sum + Long.bitCount(foundBy[test]);
         }
         return sum;
-    }
-
-    private void appendBytes(int word) {
-        for (int shift = 24; shift >= 0 && bufferLength < MAX_BYTES; shift -= 8) {
-            buffer[bufferLength] = (word >>> shift) & 255;
-            bufferLength++;
-        }
     }
 
     private void checkWire(int wire) {
@@ -865,24 +850,30 @@ public final class FaultTests {
         /** Above every allowed number, and a further digit does not overflow it. */
         private static final int HUGE = 100000;
 
+        /** What the latest text says; half of it, if the text has an error. */
+        final Setup setup = new Setup();
+        int textLength = 0;
         int errorAt = -1;
-        private final int[] text;
-        private final Setup setup;
+        private final int[] text = new int[MAX_BYTES];
         private int error = 0;
-        private int length = 0;
+        /** Where the part of the text that is read ends. */
+        private int end = 0;
         private int position = 0;
         private int token = END;
         private int tokenStart = 0;
         private int number = 0;
 
-        SetupReader(int[] buffer, Setup into) {
-            text = buffer;
-            setup = into;
+        void putBytes(int word) {
+            for (int shift = 24; shift >= 0 && textLength < MAX_BYTES; shift -= 8) {
+                text[textLength] = (word >>> shift) & 255;
+                textLength++;
+            }
         }
 
-        /** Answers 0, or the code of the first error, whose offset is errorAt then. */
+        /** Reads the first bytes and empties the text; answers 0, or the code of the first error. */
         int read(int byteCount) {
-            length = Math.min(byteCount, text.length);
+            end = Math.min(byteCount, textLength);
+            textLength = 0;
             position = 0;
             error = 0;
             errorAt = -1;
@@ -1083,7 +1074,7 @@ public final class FaultTests {
             if (token != WORD || position - tokenStart != word.length()) {
                 return false;
             }
-            for (int k = 0; k < word.length() && tokenStart + k < length; k++) {
+            for (int k = 0; k < word.length() && tokenStart + k < end; k++) {
                 if (text[tokenStart + k] != word.charAt(k)) {
                     return false;
                 }
@@ -1093,22 +1084,22 @@ public final class FaultTests {
 
         /** Goes on to the next token; position is behind it then. */
         private void advance() {
-            while (position < length && text[position] == ' ') {
+            while (position < end && text[position] == ' ') {
                 position++;
             }
             tokenStart = position;
             number = 0;
-            if (position >= length) {
+            if (position >= end) {
                 token = END;
             } else if (isDigit(text[position])) {
                 token = NUMBER;
-                while (position < length && isDigit(text[position])) {
+                while (position < end && isDigit(text[position])) {
                     number = Math.min(HUGE, number * 10 + text[position] - '0');
                     position++;
                 }
             } else if (isLetter(text[position])) {
                 token = WORD;
-                while (position < length && isLetter(text[position])) {
+                while (position < end && isLetter(text[position])) {
                     position++;
                 }
             } else {

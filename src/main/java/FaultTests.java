@@ -116,7 +116,7 @@ public final class FaultTests {
             case 6:
                 return now.tests.countSeen();
             case 7:
-                return Long.bitCount(foundFaults());
+                return Long.bitCount(listFoundByTests());
             case 8:
                 return now.circuit.greatestLevel();
             default:
@@ -238,17 +238,17 @@ public final class FaultTests {
         if (findable <= 0) {
             return 1.0;
         }
-        int found = Long.bitCount(foundFaults());
+        int found = Long.bitCount(listFoundByTests());
         return (double) found / (double) findable;
     }
 
     public int leastSet() {
-        listFoundByTests();
+        long all = listFoundByTests();
         int tests = now.tests.count;
-        long all = 0;
+        long upTo = 0;
         for (int test = 0; test < tests; test++) {
-            all |= foundBy[test];
-            foundUpTo[test] = all;
+            upTo |= foundBy[test];
+            foundUpTo[test] = upTo;
         }
         for (int budget = 0; budget <= tests; budget++) {
             int set = smallestCover(foundBy, foundUpTo, tests - 1, all, budget);
@@ -347,7 +347,7 @@ public final class FaultTests {
 
     public int complete() {
         history.push(now);
-        long open = ~foundFaults();
+        long open = ~listFoundByTests();
         listFoundByFull();
         int added = 0;
         for (int n = 0; n < MAX_TESTS && now.tests.count < MAX_TESTS; n++) {
@@ -463,18 +463,10 @@ public final class FaultTests {
         testRowsFresh = true;
     }
 
-    private long foundFaults() {
-        listFoundByTests();
-        long set = 0;
-        for (int test = 0; test < now.tests.count; test++) {
-            set |= foundBy[test];
-        }
-        return set;
-    }
-
-    private void listFoundByTests() {
+    /** Lists the faults that each test finds, and answers the set of those that at least one finds. */
+    private long listFoundByTests() {
         refreshTestRows();
-        listFound(testRows, now.tests.count, foundBy);
+        return listFound(testRows, now.tests.count, foundBy);
     }
 
     private void listFoundByFull() {
@@ -482,9 +474,13 @@ public final class FaultTests {
         listFound(fullRows, 1 << now.circuit.inputs, foundByFull);
     }
 
-    /** For each of the tests in the first lanes, the set of faults that it finds: the sum of 2^k over its faults k. */
-    private void listFound(Rows rows, int lanes, long[] sets) {
+    /**
+     * For each of the tests in the first lanes the set of the faults that it finds: the sum of 2^k over its
+     * faults k. Answers the set of those that at least one finds.
+     */
+    private long listFound(Rows rows, int lanes, long[] sets) {
         int faults = now.circuit.faultCount();
+        long all = 0;
         for (int lane = 0; lane < lanes; lane++) {
             sets[lane] = 0;
         }
@@ -493,10 +489,13 @@ public final class FaultTests {
             for (int fault = 0; fault < faults; fault++) {
                 long finders = rows.apart(now.circuit, NO_FAULT, fault, first / LANES);
                 for (int lane = 0; lane < lanesHere; lane++) {
-                    sets[first + lane] |= ((finders >>> lane) & 1) << fault;
+                    long bit = ((finders >>> lane) & 1) << fault;
+                    sets[first + lane] |= bit;
+                    all |= bit;
                 }
             }
         }
+        return all;
     }
 
     private int firstAlike(int fault) {
@@ -1204,7 +1203,11 @@ public final class FaultTests {
             int kind = circuit.kind[gate];
             int start = gate * MAX_OPERANDS;
             if (kind == MUX) {
-                runMux(gate, circuit.operand[start], circuit.operand[start + 1], circuit.operand[start + 2]);
+                int choice = circuit.operand[start];
+                int ifZero = circuit.operand[start + 1];
+                int ifOne = circuit.operand[start + 2];
+                zero[gate] = (zero[choice] & zero[ifZero]) | (one[choice] & zero[ifOne]) | (zero[ifZero] & zero[ifOne]);
+                one[gate] = (zero[choice] & one[ifZero]) | (one[choice] & one[ifOne]) | (one[ifZero] & one[ifOne]);
                 return;
             }
             long isZero = zero[circuit.operand[start]];
@@ -1227,11 +1230,6 @@ public final class FaultTests {
             boolean inverts = kind == NAND || kind == NOR || kind == XNOR || kind == NOT;
             zero[gate] = inverts ? isOne : isZero;
             one[gate] = inverts ? isZero : isOne;
-        }
-
-        private void runMux(int gate, int choice, int ifZero, int ifOne) {
-            zero[gate] = (zero[choice] & zero[ifZero]) | (one[choice] & zero[ifOne]) | (zero[ifZero] & zero[ifOne]);
-            one[gate] = (zero[choice] & one[ifZero]) | (one[choice] & one[ifOne]) | (one[ifZero] & one[ifOne]);
         }
     }
 

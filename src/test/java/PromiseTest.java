@@ -195,6 +195,13 @@ public final class PromiseTest {
         error(syntax, 11, "circuit 2  ");
         error(syntax, 10, "circuit 2 2;");
         error(syntax, 9, "circuit 2\n;");
+        error(syntax, 0, "circuitz 2;");
+        error(syntax, 0, "circuita 2;");
+        error(syntax, 7, "circuit{2;");
+        error(syntax, 7, "circuit`2;");
+        error(syntax, 9, "circuit 2/;");
+        error(syntax, 9, "circuit 2:;");
+        error(syntax, 9, "circuit 2\u00b2;");
         error(syntax, 7, "circuit\t2;");
         error(syntax, 10, "circuit 2;;");
         error(syntax, 10, "circuit 2;gates and 0 1;");

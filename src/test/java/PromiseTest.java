@@ -1,80 +1,7 @@
-import java.util.NoSuchElementException;
-
 /** Each promise of the document by hand: ordinary inputs, the edges that the document names, and wrong inputs. */
-public final class PromiseTest {
-    private static final String OUT = "throws.IndexOutOfBoundsException";
-    private static final String ILLEGAL = "throws.IllegalArgumentException";
-    private static final String STATE = "throws.IllegalStateException";
-    private static final String NONE = "throws.NoSuchElementException";
-
-    private interface Call {
-        Object make();
-    }
-
-    private static int promise = 0;
-    private static int row = 0;
-    private static int checks = 0;
-    private static int wrong = 0;
-
+public final class PromiseTest extends Checks {
     private static void promise(int number) {
-        promise = number;
-        row = 0;
-    }
-
-    private static void due(Object want, Call call) {
-        Object got;
-        try {
-            got = call.make();
-        } catch (IndexOutOfBoundsException | IllegalArgumentException | IllegalStateException
-                | NoSuchElementException e) {
-            got = "throws." + e.getClass().getSimpleName();
-        }
-        checks++;
-        row++;
-        if (!want.equals(got)) {
-            wrong++;
-            System.out.println("promise " + promise + ", row " + row + ": answered " + got + ", due is " + want);
-        }
-    }
-
-    private static void put(FaultTests x, String text) {
-        for (int i = 0; i < text.length(); i += 20) {
-            int[] w = new int[5];
-            for (int k = 0; k < 20 && i + k < text.length(); k++) {
-                w[k / 4] |= (text.charAt(i + k) & 255) << (24 - 8 * (k % 4));
-            }
-            x.append(w[0], w[1], w[2], w[3], w[4]);
-        }
-    }
-
-    private static int read(FaultTests x, String text) {
-        put(x, text);
-        return x.load(text.length());
-    }
-
-    private static FaultTests of(String text) {
-        FaultTests x = new FaultTests();
-        if (read(x, text) < 0) {
-            throw new AssertionError(text + " has an error at " + x.errorOffset());
-        }
-        return x;
-    }
-
-    /** The text has this error at this offset, and the data stay. */
-    private static void error(int code, int offset, String text) {
-        FaultTests x = of("circuit 3;gate and 0 1;output 3;test 1 1 x;");
-        x.see(0, 0, 1);
-        long before = x.checksum();
-        due(code, () -> read(x, text));
-        due(offset, x::errorOffset);
-        due(before, x::checksum);
-        due(1, x::undo);
-    }
-
-    private static void fine(int wires, String text) {
-        FaultTests x = new FaultTests();
-        due(wires, () -> read(x, text));
-        due(-1, x::errorOffset);
+        about("promise " + number);
     }
 
     /** Two inputs and one and: faults 0, 2 and 4 make it 0, the faults 1, 3 and 5 are all different. */
@@ -104,10 +31,7 @@ public final class PromiseTest {
         completing();
         undoing();
         checksum();
-        System.out.println(checks - wrong + " of " + checks + " answers are as due");
-        if (wrong != 0) {
-            System.exit(1);
-        }
+        finish();
     }
 
     private static void newObject() {

@@ -293,8 +293,18 @@ public final class BoundaryTermsTest extends Checks {
                 same(255 - (1 << input), x.testFor(2 * input + 1));
             }
             same(0, x.testFor(21));
-            same(1, of("circuit 1;output 0;").testFor(0));
-            same(0, of("circuit 1;output 0;").testFor(1));
+            for (int inputs = 1; inputs <= 8; inputs++) {
+                int last = inputs - 1;
+                FaultTests y = of("circuit " + inputs + ";gate nand" + (" " + last).repeat(2) + ";output " + inputs + ";");
+                same(1 << last, y.testFor(2 * last));
+                same(0, y.testFor(2 * last + 1));
+                same(0, y.testBetween(2 * inputs, 2 * last));
+                same(-1, y.testBetween(2 * inputs, 2 * last + 1));
+                same(2 * last, y.hidden());
+                same(2, y.complete());
+                same(0, y.value(0, last));
+                same(1, y.value(1, last));
+            }
         });
     }
 

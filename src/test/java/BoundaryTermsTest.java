@@ -295,7 +295,8 @@ public final class BoundaryTermsTest extends Checks {
             same(0, x.testFor(21));
             for (int inputs = 1; inputs <= 8; inputs++) {
                 int last = inputs - 1;
-                FaultTests y = of("circuit " + inputs + ";gate nand" + (" " + last).repeat(2) + ";output " + inputs + ";");
+                String gate = ";gate nand " + last + " " + last + ";";
+                FaultTests y = of("circuit " + inputs + gate + "output " + inputs + ";");
                 same(1 << last, y.testFor(2 * last));
                 same(0, y.testFor(2 * last + 1));
                 same(0, y.testBetween(2 * inputs, 2 * last));
